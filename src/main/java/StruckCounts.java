@@ -103,13 +103,13 @@ public final class StruckCounts {
             case 0:
                 return board.bound;
             case 1:
-                return board.tally.size;
+                return board.tally().size;
             case 2:
                 return Long.bitCount(board.struck);
             case 3:
                 return board.came - Long.bitCount(board.struck);
             case 4:
-                return board.tally.countAt(0);
+                return board.countLeft();
             case 5:
                 return board.nextPrime();
             case 6:
@@ -121,21 +121,21 @@ public final class StruckCounts {
 
     public int quotient(int q) throws IndexOutOfBoundsException {
         checkQuotient(q);
-        return board.tally.valueAt(q);
+        return board.tally().valueAt(q);
     }
 
     public int quotientOf(int v) {
-        return board.tally.placeOf(v);
+        return board.tally().placeOf(v);
     }
 
     public int left(int q) throws IndexOutOfBoundsException {
         checkQuotient(q);
-        return board.tally.countAt(q);
+        return board.tally().countAt(q);
     }
 
     public long sumLeft(int q) throws IndexOutOfBoundsException {
         checkQuotient(q);
-        return board.tally.sumAt(q);
+        return board.tally().sumAt(q);
     }
 
     public int restLeft(int q, int rest) throws IndexOutOfBoundsException, IllegalArgumentException {
@@ -143,7 +143,7 @@ public final class StruckCounts {
         if (outside(rest, 0, 3)) {
             throw new IllegalArgumentException("the rest is not 0 to 3");
         }
-        return board.tally.restAt(q, rest);
+        return board.tally().restAt(q, rest);
     }
 
     public int came(int k) throws IllegalArgumentException {
@@ -172,9 +172,9 @@ public final class StruckCounts {
     public int strike() throws IllegalStateException {
         checkNextPrime();
         store.remember(board);
-        int before = board.tally.countAt(0);
+        int before = board.countLeft();
         board.letCome(true);
-        return before - board.tally.countAt(0);
+        return before - board.countLeft();
     }
 
     public int spare() throws IllegalStateException {
@@ -213,7 +213,7 @@ public final class StruckCounts {
     public int wouldStrike(int q) throws IndexOutOfBoundsException {
         checkQuotient(q);
         int prime = board.nextPrime();
-        return prime == NONE ? 0 : board.tally.multiplesAt(q, prime);
+        return prime == NONE ? 0 : board.tally().multiplesAt(q, prime);
     }
 
     // ---- primes, whatever the bound is, and whatever came
@@ -262,8 +262,8 @@ public final class StruckCounts {
         }
         // The numbers with p as their least factor are p times what the primes below p leave up to x / p.
         // A prime of that span is below 317, even where p is not.
-        Tally others = trial.tally;
-        others.begin(x / p);
+        trial.begin(x / p);
+        Tally others = trial.tally();
         for (int smaller : SMALL_PRIMES) {
             if (smaller < p) {
                 others.remove(smaller);
@@ -328,11 +328,11 @@ public final class StruckCounts {
                 trial.begin(trial.bound);
                 return true;
             case 6:
-                return trial.tally.countAt(0) >= number;
+                return trial.countLeft() >= number;
             case 7:
-                return trial.tally.countAt(0) <= number;
+                return trial.countLeft() <= number;
             case 8:
-                return trial.tally.placeOf(number) != NONE;
+                return trial.tally().placeOf(number) != NONE;
             case 9:
                 return trial.wasStruckBy(number);
             default:
@@ -350,7 +350,7 @@ public final class StruckCounts {
             x = x * 6364136223846793005L + 1442695040888963407L;
             takeTurn((int) (x >>> 33));
         }
-        return trial.tally.countAt(0);
+        return trial.countLeft();
     }
 
     private void takeTurn(int r) {
@@ -396,7 +396,7 @@ public final class StruckCounts {
     }
 
     private void checkQuotient(int q) {
-        if (q < 0 || q >= board.tally.size) {
+        if (q < 0 || q >= board.tally().size) {
             throw new IndexOutOfBoundsException("there is no such quotient");
         }
     }
@@ -538,6 +538,8 @@ public final class StruckCounts {
     /** A state: a bound and the primes that came, with the tally of what is left that follows from them. */
     private static final class Board {
         private final Tally tally = new Tally();
+        /** How many of the primes that came are in the tally already; NONE if it is one of another state. */
+        private int tallied;
         private int bound;
         private int came;
         /** Bit k is set if the prime at k came and struck. */
@@ -548,10 +550,36 @@ public final class StruckCounts {
         }
 
         void begin(int n) {
+            show(n, 0, 0);
+        }
+
+        void show(int n, int primes, long mask) {
             bound = n;
-            came = 0;
-            struck = 0;
-            tally.begin(n);
+            came = primes;
+            struck = mask;
+            tallied = NONE;
+        }
+
+        void copyOf(Board other) {
+            show(other.bound, other.came, other.struck);
+        }
+
+        /** The tally is dear, and many a state is left again before anyone asks for it. */
+        Tally tally() {
+            if (tallied == NONE) {
+                tally.begin(bound);
+                tallied = 0;
+            }
+            for (; tallied < came; tallied++) {
+                if (hasStruck(tallied)) {
+                    tally.remove(primeAt(tallied));
+                }
+            }
+            return tally;
+        }
+
+        int countLeft() {
+            return tally().countAt(0);
         }
 
         int primeAt(int k) {
@@ -578,13 +606,11 @@ public final class StruckCounts {
 
         /** Returns whether a prime could come. */
         boolean letCome(boolean strikes) {
-            int prime = nextPrime();
-            if (prime == NONE) {
+            if (nextPrime() == NONE) {
                 return false;
             }
             if (strikes) {
                 struck |= 1L << came;
-                tally.remove(prime);
             }
             came++;
             return true;
@@ -597,24 +623,6 @@ public final class StruckCounts {
                 strikes++;
             }
             return strikes;
-        }
-
-        void show(int n, int primes, long mask) {
-            begin(n);
-            came = primes;
-            struck = mask;
-            for (int k = 0; k < came && k < MOST_CAME; k++) {
-                if (hasStruck(k)) {
-                    tally.remove(primeAt(k));
-                }
-            }
-        }
-
-        void copyOf(Board other) {
-            bound = other.bound;
-            came = other.came;
-            struck = other.struck;
-            tally.copyOf(other.tally);
         }
     }
 
@@ -715,14 +723,6 @@ public final class StruckCounts {
                     rests[4 * place + (prime * rest & 3)] -= rests[4 * source + rest];
                 }
             }
-        }
-
-        void copyOf(Tally other) {
-            bound = other.bound;
-            size = other.size;
-            System.arraycopy(other.values, 0, values, 0, MOST_QUOTIENTS);
-            System.arraycopy(other.rests, 0, rests, 0, 4 * MOST_QUOTIENTS);
-            System.arraycopy(other.sums, 0, sums, 0, MOST_QUOTIENTS);
         }
     }
 

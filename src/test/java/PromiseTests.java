@@ -164,6 +164,8 @@ public final class PromiseTests {
         fault("bound999990", 10);
         fault("bound5a", 6);
         fault("bounds", 5);
+        fault("again0", 5);
+        fault("again1", 5);
         fault("again2", 5);
         fault("again,agai", 10);
         fault("again,agaim", 10);
