@@ -20,6 +20,7 @@ public final class ModelTests {
     private final Random random;
     private final StruckCounts ours = new StruckCounts();
     private final Model due = new Model();
+    private int calls = 0;
 
     private ModelTests(Check check, long seed) {
         this.check = check;
@@ -36,13 +37,17 @@ public final class ModelTests {
     }
 
     private void makeCalls(int leaning) {
-        int calls = 0;
         while (calls < CALLS && check.wrong() == 0) {
-            calls += makeCall(leaning);
+            makeCall(leaning);
         }
     }
 
+    /** Some kinds make several calls; what an object answers to one call too many is free. */
     private void same(String call, LongSupplier want, LongSupplier got) {
+        if (calls == CALLS) {
+            return;
+        }
+        calls++;
         check.compare(call, Check.answerOf(want), Check.answerOf(got));
     }
 
@@ -73,22 +78,22 @@ public final class ModelTests {
         return random.nextInt(3) == 0 ? near(1, 99999) : random.nextInt(2) == 0 ? near(1, 3000) : near(1, 60);
     }
 
-    /** Returns how many calls were made. */
-    private int makeCall(int leaning) {
+    private void makeCall(int leaning) {
         int kind = random.nextInt(10);
         if (leaning == 0 ? kind < 5 : kind < 2) {
-            return act();
+            act();
+        } else if (leaning == 1 ? kind < 6 : kind < 3) {
+            write();
+        } else if (leaning == 2 ? kind < 7 : kind < 5) {
+            askPrimes();
+        } else if (leaning == 3 && kind < 8) {
+            rehearse();
+        } else {
+            ask();
         }
-        if (leaning == 1 ? kind < 6 : kind < 3) {
-            return write();
-        }
-        if (leaning == 2 ? kind < 7 : kind < 5) {
-            return askPrimes();
-        }
-        return leaning == 3 && kind < 8 ? rehearse() : ask();
     }
 
-    private int act() {
+    private void act() {
         int kind = random.nextInt(16);
         if (kind < 5) {
             same("strike()", due::strike, ours::strike);
@@ -112,45 +117,35 @@ public final class ModelTests {
                 same("restore(" + slot + ")", () -> due.restore(slot), () -> ours.restore(slot));
             }
         }
-        return 1;
     }
 
-    private int write() {
+    private void write() {
         int kind = random.nextInt(12);
         if (kind == 0) {
             same("load()", due::load, ours::load);
-            return 1;
-        }
-        if (kind == 1) {
+        } else if (kind == 1) {
             same("clearText()", due::clearText, ours::clearText);
-            return 1;
-        }
-        if (kind == 2) {
+        } else if (kind == 2) {
             same("clearText()", due::clearText, ours::clearText);
-            int calls = append("bound" + (1 + random.nextInt(2000)) + ",strike4,spare,strike" + oneOf(2, 5, 9)) + 2;
+            append("bound" + (1 + random.nextInt(2000)) + ",strike4,spare,strike" + oneOf(2, 5, 9));
             same("load()", due::load, ours::load);
-            return calls;
-        }
-        if (kind == 3) {
+        } else if (kind == 3) {
             int c = near(0, 255);
             same("append(" + c + ")", () -> due.append(c), () -> ours.append(c));
-            return 1;
-        }
-        if (kind < 7) {
+        } else if (kind < 7) {
             same("errorPosition()", due::errorPosition, ours::errorPosition);
-            return 1;
+        } else {
+            append(PIECES[random.nextInt(PIECES.length)]);
         }
-        return append(PIECES[random.nextInt(PIECES.length)]);
     }
 
-    private int append(String piece) {
+    private void append(String piece) {
         for (char c : piece.toCharArray()) {
             same("append(" + (int) c + ")", () -> due.append(c), () -> ours.append(c));
         }
-        return piece.length();
     }
 
-    private int ask() {
+    private void ask() {
         int q = someQuotient();
         switch (random.nextInt(8)) {
             case 0:
@@ -182,10 +177,9 @@ public final class ModelTests {
                 same("wouldStrike(" + q + ")", () -> due.wouldStrike(q), () -> ours.wouldStrike(q));
                 break;
         }
-        return 1;
     }
 
-    private int askPrimes() {
+    private void askPrimes() {
         int x = near(0, 99999);
         switch (random.nextInt(8)) {
             case 0:
@@ -218,15 +212,14 @@ public final class ModelTests {
                 same("twoFactors(" + x + ")", () -> due.twoFactors(x), () -> ours.twoFactors(x));
                 break;
         }
-        return 1;
     }
 
-    private int rehearse() {
+    private void rehearse() {
         if (random.nextInt(3) == 0) {
             long seed = random.nextInt(4) == 0 ? oneOf(EDGES) : random.nextLong();
             int m = near(1, 60);
             same("simulate(" + seed + ", " + m + ")", () -> due.simulate(seed, m), () -> ours.simulate(seed, m));
-            return 1;
+            return;
         }
         int n = oneOf(1, 2, 3, 3, 3, 3, near(1, 3));
         long script = 0;
@@ -235,7 +228,6 @@ public final class ModelTests {
         }
         long whole = random.nextInt(20) == 0 ? random.nextLong() : random.nextInt(20) == 0 ? script * 10 : script;
         same("runScript(" + n + ", " + whole + ")", () -> due.runScript(n, whole), () -> ours.runScript(n, whole));
-        return 1;
     }
 
     private int someCommand() {

@@ -1,6 +1,9 @@
 import java.util.function.LongSupplier;
 
-/** Every promise of the document by itself: ordinary calls, the edges that it names, and wrong arguments. */
+/**
+ * Every promise of the document by itself: ordinary calls, the edges that it names, and wrong arguments.
+ * No object is asked more than 512 times: what it answers then is free.
+ */
 public final class PromiseTests {
     private static final Class<IllegalArgumentException> ARGUMENT = IllegalArgumentException.class;
     private static final Class<IllegalStateException> STATE = IllegalStateException.class;
@@ -38,6 +41,11 @@ public final class PromiseTests {
         x.bound(bound);
     }
 
+    private void renew(int bound) {
+        x = new StruckCounts();
+        x.bound(bound);
+    }
+
     private void write(String text) {
         x.clearText();
         for (char c : text.toCharArray()) {
@@ -49,21 +57,22 @@ public final class PromiseTests {
         check.fails(call, ARGUMENT, got);
     }
 
-    /** All that can be seen of an object without changing it, but for how long its text is. */
+    /** What tells a state: the first quotients, and the primes that came. */
     private static String seen(StruckCounts x) {
         StringBuilder all = new StringBuilder();
         for (int what = 0; what <= 6; what++) {
             all.append(x.about(what)).append(' ');
         }
-        for (int q = 0; q < x.about(1); q++) {
+        for (int q = 0; q < Math.min(3, x.about(1)); q++) {
             all.append(x.quotient(q)).append(':').append(x.left(q)).append(':').append(x.sumLeft(q));
             for (int rest = 0; rest <= 3; rest++) {
                 all.append(':').append(x.restLeft(q, rest));
             }
             all.append(':').append(x.wouldStrike(q)).append(' ');
         }
-        for (int k = 0; k <= 40; k++) {
-            all.append(x.came(k)).append(' ');
+        for (int k = 0, prime = -1; prime != 0 && k <= 40; k++) {
+            prime = x.came(k);
+            all.append(prime).append(' ');
         }
         return all.append(x.errorPosition()).toString();
     }
@@ -110,6 +119,7 @@ public final class PromiseTests {
     }
 
     private void fault(String text, int want) {
+        x = new StruckCounts();
         write(text);
         check.is("errorPosition() of " + text, want, () -> x.errorPosition());
         if (want == StruckCounts.NONE) {
@@ -269,7 +279,6 @@ public final class PromiseTests {
             check.is("quotientOf(" + v + ")", -1, () -> x.quotientOf(v));
         }
         for (int bound : new int[] {1, 2, 3, 4, 5, 6, 8, 9, 11, 12, 15, 16, 20, 99855, 99856, 99857, 99999}) {
-            x.bound(bound);
             everyQuotient(bound);
         }
     }
@@ -281,6 +290,9 @@ public final class PromiseTests {
             if (bound / k != last) {
                 last = bound / k;
                 place++;
+                if (place % 100 == 0) {
+                    renew(bound);
+                }
                 int want = place;
                 int value = last;
                 check.is("quotient(" + want + ") of " + bound, value, () -> x.quotient(want));
@@ -438,23 +450,24 @@ public final class PromiseTests {
         check.is("about(6)", -1, () -> x.about(6));
     }
 
+    private static StruckCounts afterActions(int actions) {
+        StruckCounts other = new StruckCounts();
+        Runnable[] all = {other::strike, other::spare, () -> other.strikeTo(20), other::again, () -> other.bound(60)};
+        for (int i = 0; i < actions; i++) {
+            all[i].run();
+        }
+        return other;
+    }
+
     private void undoing() {
         begin("18 undo");
-        String[] states = new String[6];
-        states[0] = seen(x);
-        x.strike();
-        states[1] = seen(x);
-        x.spare();
-        states[2] = seen(x);
-        x.strikeTo(20);
-        states[3] = seen(x);
-        x.again();
-        states[4] = seen(x);
-        x.bound(60);
-        states[5] = seen(x);
         for (int left = 4; left >= 0; left--) {
-            check.is("undo()", left, () -> x.undo());
-            check.compare("what is seen with " + left + " remembered", states[left], seen(x));
+            x = afterActions(5);
+            for (int undone = 4; undone >= left; undone--) {
+                int remembered = undone;
+                check.is("undo()", remembered, () -> x.undo());
+            }
+            check.compare("what is seen with " + left + " remembered", seen(afterActions(left)), seen(x));
         }
         check.fails("undo() with none", STATE, () -> x.undo());
 
@@ -587,6 +600,9 @@ public final class PromiseTests {
         }
         for (int i = 1; i <= 9592; i++) {
             int rank = i;
+            if (i % 200 == 0) {
+                renew(1);
+            }
             check.is("primes(prime(" + i + "))", i, () -> x.primes(x.prime(rank)));
         }
         check.is("prime(9592)", 99991, () -> x.prime(9592));
@@ -635,7 +651,11 @@ public final class PromiseTests {
         check.compare("what is seen after withLeast", before, seen(x));
         for (int top : new int[] {1, 2, 30, 961, 99999}) {
             int all = 0;
-            for (int rank = 1; rank <= x.primes(top); rank++) {
+            int last = x.primes(top);
+            for (int rank = 1; rank <= last; rank++) {
+                if (rank % 200 == 1) {
+                    renew(1);
+                }
                 all += x.withLeast(top, x.prime(rank));
             }
             int whole = all;
@@ -659,7 +679,15 @@ public final class PromiseTests {
         outOfRange("twoFactors(100000)", () -> x.twoFactors(100000));
     }
 
+    /** Runs a script when 2 struck and 3 was spared, so that 50 of 100 are left. */
     private void script(int n, long script, int want) {
+        x = new StruckCounts();
+        x.strike();
+        x.spare();
+        scriptNow(n, script, want);
+    }
+
+    private void scriptNow(int n, long script, int want) {
         String before = seen(x);
         check.is("runScript(" + n + ", " + script + ")", want, () -> x.runScript(n, script));
         check.compare("what is seen after runScript", before, seen(x));
@@ -667,9 +695,6 @@ public final class PromiseTests {
 
     private void scripts() {
         begin("28 runScript");
-        x.strike();
-        x.spare();
-        // 50 are left of 100; 2 struck, 3 was spared.
         script(1, 100001, -1);
         script(1, 199999, -1);
         script(1, 100000, 0);
@@ -718,24 +743,28 @@ public final class PromiseTests {
         outOfRange("runScript(3, lowest)", () -> x.runScript(3, Long.MIN_VALUE));
         check.is("undo() the spare", 1, () -> x.undo());
         check.is("undo() the strike", 0, () -> x.undo());
-        x.bound(99999);
-        x.strikeTo(400);
-        script(1, 200000, 0);
-        script(1, 300000, 0);
-        script(1, 900173, -1);
-        script(1, 900179, 0);
+        long[][] after40 = {{200000, 0}, {300000, 0}, {900173, -1}, {900179, 0}};
+        for (long[] one : after40) {
+            renew(99999);
+            x.strikeTo(400);
+            scriptNow(1, one[0], (int) one[1]);
+        }
+    }
+
+    private void strikeSpareStrike() {
+        x = new StruckCounts();
+        x.strike();
+        x.spare();
+        x.strike();
     }
 
     private void simulations() {
         begin("29 simulate");
-        check.is("simulate(5, 30) of a run that is told", 2692, () -> {
-            x.strike();
-            x.spare();
-            x.strike();
-            return x.simulate(5, 30);
-        });
+        strikeSpareStrike();
+        check.is("simulate(5, 30) of a run that is told", 2692, () -> x.simulate(5, 30));
         String before = seen(x);
         for (long seed : new long[] {0, 1, -1, 5, 99, Long.MIN_VALUE, Long.MAX_VALUE, 123456789012345L}) {
+            strikeSpareStrike();
             for (int turns : new int[] {1, 2, 3, 7, 20, 59, 60}) {
                 check.is("simulate(" + seed + ", " + turns + ")", playedOut(seed, turns), () -> x.simulate(seed, turns));
                 check.compare("what is seen after simulate", before, seen(x));
@@ -817,18 +846,31 @@ public final class PromiseTests {
         check.is("restore(1) after save(1)", 100, () -> x.restore(1));
     }
 
-    private void unchanged(Class<? extends RuntimeException> want, String call, LongSupplier got) {
-        String before = seen(x);
-        check.fails(call, want, got);
-        check.compare("what is seen after " + call, before, seen(x));
-    }
-
-    private void exceptionsChangeNothing() {
-        begin("a call that throws changes nothing", 3);
+    private void smallWithMuchToLose() {
+        x = new StruckCounts();
+        x.bound(3);
         x.strike();
         x.spare();
         x.save(0);
         x.append('x');
+    }
+
+    private void unchanged(Class<? extends RuntimeException> want, String call, LongSupplier got) {
+        smallWithMuchToLose();
+        String before = seen(x);
+        check.fails(call, want, got);
+        check.compare("what is seen after " + call, before, seen(x));
+        check.is("undo() the spare", 2, () -> x.undo());
+        check.is("undo() the strike", 1, () -> x.undo());
+        check.is("undo() the bound", 0, () -> x.undo());
+        check.is("clearText()", 1, () -> x.clearText());
+        check.fails("restore(1)", STATE, () -> x.restore(1));
+        check.is("restore(0)", 3, () -> x.restore(0));
+        check.is("about(3)", 1, () -> x.about(3));
+    }
+
+    private void exceptionsChangeNothing() {
+        begin("a call that throws changes nothing");
         unchanged(STATE, "strike()", () -> x.strike());
         unchanged(STATE, "spare()", () -> x.spare());
         unchanged(STATE, "load()", () -> x.load());
@@ -840,11 +882,5 @@ public final class PromiseTests {
         unchanged(ARGUMENT, "append(256)", () -> x.append(256));
         unchanged(ARGUMENT, "runScript(4, 0)", () -> x.runScript(4, 0));
         unchanged(ARGUMENT, "simulate(0, 0)", () -> x.simulate(0, 0));
-        check.is("undo() the spare", 2, () -> x.undo());
-        check.is("undo() the strike", 1, () -> x.undo());
-        check.is("undo() the bound", 0, () -> x.undo());
-        check.is("clearText()", 1, () -> x.clearText());
-        check.is("restore(0)", 3, () -> x.restore(0));
-        check.is("about(3)", 1, () -> x.about(3));
     }
 }
