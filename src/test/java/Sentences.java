@@ -80,6 +80,11 @@ abstract class Sentences {
         }
     }
 
+    /** One answer of an object that the test itself asks. */
+    final void due(String call, long want, long got) {
+        check.compare(call, Long.toString(want), Long.toString(got));
+    }
+
     static long[] of(long... values) {
         return values;
     }

@@ -19,6 +19,43 @@ public final class StateTests extends Sentences {
                 "restore(1) !state", "clearText() = 0");
     }
 
+    @Sentence("1: Creates a table ..")
+    void aTableKnowsNothingOfAnother() {
+        StruckCounts one = new StruckCounts();
+        StruckCounts other = new StruckCounts();
+        one.strike();
+        one.save(0);
+        one.append('x');
+        due("about(2) of the other", 0, other.about(2));
+        due("errorPosition() of the other", 0, other.errorPosition());
+        other.bound(30);
+        other.spare();
+        other.strike();
+        due("about(0) of the one", 100, one.about(0));
+        due("about(4) of the one", 50, one.about(4));
+        due("about(4) of the other", 20, other.about(4));
+        due("simulate(0, 1) of the other, that strikes", 16, other.simulate(0, 1));
+        due("runScript(1, 900002) of the one", NONE, one.runScript(1, 900002));
+        due("runScript(1, 900002) of the other", 0, other.runScript(1, 900002));
+        due("save(0) of the other", 30, other.save(0));
+        due("restore(0) of the one", 100, one.restore(0));
+        due("came(0) of the one", 2, one.came(0));
+        due("clearText() of the one", 1, one.clearText());
+        due("undo() of the other", 2, other.undo());
+        due("sumLeft(0) of the other", 465, other.sumLeft(0));
+        due("restore(0) of the other", 30, other.restore(0));
+        due("about(4) of the other", 20, other.about(4));
+        due("about(4) of a third one", 100, new StruckCounts().about(4));
+    }
+
+    @Sentence("2: Appends a character to the text buffer.")
+    void appendAddsAtTheEnd() {
+        run("append(115)", "append(116)", "append(114)", "append(105)", "append(107)", "append(101)", "errorPosition() = NONE",
+                "load() = 0", "about(2) = 1", "append(51)", "load() = 0", "about(2) = 3", "append(44)", "errorPosition() = 8",
+                "append(115)", "errorPosition() = 9");
+        run("append(107)", "append(101)", "errorPosition() = 0");
+    }
+
     @Sentence("2: c: character code, 0 to 255. Throws IllegalArgumentException if c is out of range")
     void appendTakes0To255() {
         argument("append", "argument", of(0, 1, 127, 128, 254, 255), of(-1, 256, MIN, MAX));
@@ -67,6 +104,15 @@ public final class StateTests extends Sentences {
         run("errorPosition() = 0", "append(115)", "errorPosition() = 1", "append(112)", "errorPosition() = 2", "write(are)",
                 "errorPosition() = NONE", "append(50)", "errorPosition() = NONE", "append(44)", "errorPosition() = 7",
                 "append(44)", "errorPosition() = 7", "append(97)", "errorPosition() = 7", "clearText()", "errorPosition() = 0");
+    }
+
+    @Sentence("4: Checks the text.")
+    void theTextIsCheckedAndNotDone() {
+        run("write(bound7,spare)", "errorPosition() = NONE", "about(0) = 100", "about(3) = 0", "clearText() = 12",
+                "errorPosition() = 0");
+        run("strike()", "save(0)", "write(bound7,spare0)", "errorPosition() = 12", "errorPosition() = 12", "about(2) = 1",
+                "undo() = 0", "restore(0) = 100");
+        run("bound(1)", "write(spare9)", "errorPosition() = NONE", "append(57)", "errorPosition() = 6");
     }
 
     @Sentence("5: Makes everything as in a new object, and then does the words of the text: ..")
@@ -166,10 +212,25 @@ public final class StateTests extends Sentences {
         run("bound(99999)", "strikeTo(99999)", "about(6) = 173", "undo()", "about(6) = NONE");
     }
 
+    @Sentence("6: Returns a number. .. Returns that number.")
+    void aboutAll() {
+        run("bound(60)", "strike()", "spare()", "strike()", "about(0) = 60", "about(1) = 14", "about(2) = 2", "about(3) = 1",
+                "about(4) = 24", "about(5) = 7", "about(6) = 5");
+        run("bound(99999)", "39* spare()", "strike()", "about(0) = 99999", "about(1) = 631", "about(2) = 1", "about(3) = 39",
+                "about(4) = 99421", "about(5) = NONE", "about(6) = 173");
+    }
+
     @Sentence("6: Throws IllegalArgumentException if what is not 0 to 6")
     void aboutTakes0To6() {
         argument("about", "argument", of(0, 1, 2, 3, 4, 5, 6), of(-1, 7, MIN, MAX));
         argument("about", "argument", of(0, 6), of(-1, 7), "bound(1)", "write(again)");
+    }
+
+    @Sentence("7: q: which one, from 0. Returns the quotient.")
+    void quotientByItsNumber() {
+        run("quotient(0) = 100", "quotient(1) = 50", "quotient(2) = 33", "quotient(3) = 25", "quotient(4) = 20",
+                "quotient(5) = 16", "quotient(6) = 14", "quotient(7) = 12", "strikeTo(9)", "quotient(7) = 12", "bound(2)",
+                "quotient(0) = 2", "quotient(1) = 1", "undo()", "quotient(1) = 50");
     }
 
     @Sentence("7: Throws IndexOutOfBoundsException if there are not so many")
@@ -268,6 +329,22 @@ public final class StateTests extends Sentences {
                 "came(33) = 0", "came(63) = 0", "came(64) = 0", "came(95) = 0");
     }
 
+    @Sentence("12: Returns a prime that came. k: which one, from 0.")
+    void cameByItsNumber() {
+        int[] primes = {
+            2, 3, 5, 7, 11, 13, 17, 19, 23, 29, 31, 37, 41, 43, 47, 53, 59, 61, 67, 71, 73, 79, 83, 89, 97, 101, 103,
+            107, 109, 113, 127, 131, 137, 139, 149, 151, 157, 163, 167, 173
+        };
+        List<String> rows = new ArrayList<>(List.of("bound(173)"));
+        for (int k = 0; k < primes.length; k++) {
+            rows.add(k % 3 == 1 ? "spare()" : "strike()");
+        }
+        for (int k = 0; k < primes.length; k++) {
+            rows.add("1* came(" + k + ") = " + (k % 3 == 1 ? -primes[k] : primes[k]));
+        }
+        run(rows);
+    }
+
     @Sentence("12: Throws IllegalArgumentException if k is negative")
     void cameTakesNoNegative() {
         argument("came", "argument", of(0, 1, MAX), of(-1, -2, MIN));
@@ -294,6 +371,12 @@ public final class StateTests extends Sentences {
     void boundTakes1To99999() {
         argument("bound", "argument", of(1, 2, 99998, 99999), of(0, -1, 100000, MIN, MAX));
         argument("bound", "argument", of(1, 99999), of(0, 100000), "save(0)", "14* spare()", "strike()");
+    }
+
+    @Sentence("14: The next prime strikes.")
+    void strikeLetsTheNextPrimeStrike() {
+        run("strike()", "about(6) = 2", "about(5) = 3", "came(0) = 2", "left(0) = 50", "sumLeft(0) = 2500", "strike()",
+                "about(6) = 3", "came(1) = 3", "left(0) = 33", "about(2) = 2", "about(3) = 0", "about(0) = 100");
     }
 
     @Sentence("14: Returns how many numbers from 1 to n it strikes that were left.")
@@ -323,6 +406,12 @@ public final class StateTests extends Sentences {
         run("bound(173)", "39* strike()", "strike() = 1", "strike() !state");
         run("bound(99999)", "40* strike()", "strike() !state", "about(2) = 40", "undo() = 13", "strike() = 68");
         run("bound(99999)", "40* spare()", "strike() !state", "about(2) = 0");
+    }
+
+    @Sentence("15: The next prime is spared.")
+    void spareLetsTheNextPrimeComeWithoutAStrike() {
+        run("spare()", "about(6) = 2", "about(5) = 3", "came(0) = -2", "left(0) = 100", "sumLeft(0) = 5050", "strike()",
+                "spare()", "about(6) = 5", "came(2) = -5", "left(0) = 67", "about(2) = 1", "about(3) = 2", "about(0) = 100");
     }
 
     @Sentence("15: Returns the prime.")
@@ -366,6 +455,12 @@ public final class StateTests extends Sentences {
         run("bound(99999)", "spare()", "strikeTo(99999) = 39", "about(2) = 39", "about(6) = 173");
         run("bound(99999)", "39* spare()", "strikeTo(99999) = 1", "came(39) = 173");
         run("bound(99999)", "40* spare()", "strikeTo(99999) = 0", "about(2) = 0");
+    }
+
+    @Sentence("16: Primes strike .. Returns how many strike.")
+    void strikeToReturnsHowManyStrike() {
+        run("strikeTo(30) = 10", "about(2) = 10", "about(3) = 0", "came(9) = 29", "left(0) = 16", "undo() = 0", "about(2) = 0",
+                "spare()", "strikeTo(30) = 9", "about(2) = 9", "undo() = 1", "about(2) = 0", "about(3) = 1");
     }
 
     @Sentence("16: most: 0 to 99999. Throws IllegalArgumentException if most is out of range")
@@ -412,6 +507,12 @@ public final class StateTests extends Sentences {
         run("bound(30)", "strike()", "wouldStrike(0) = 5", "wouldStrike(4) = 1", "wouldStrike(7) = 1", "wouldStrike(8) = 0");
         run("bound(99999)", "wouldStrike(0) = 49999", "wouldStrike(629) = 1", "wouldStrike(630) = 0", "39* strike()",
                 "wouldStrike(0) = 68", "strike() = 68");
+    }
+
+    @Sentence("19: Tells what the next prime would strike. (.. change nothing)")
+    void wouldStrikeOnlyTells() {
+        run("wouldStrike(0) = 50", "wouldStrike(0) = 50", "about(6) = NONE", "about(4) = 100", "undo() !state", "strike() = 50",
+                "wouldStrike(1) = 8", "left(1) = 25", "strike()", "left(1) = 17", "undo() = 1", "wouldStrike(1) = 8");
     }
 
     @Sentence("19: .. 0 if it is above the bound, or 40 came.")

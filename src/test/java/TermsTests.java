@@ -41,6 +41,27 @@ public final class TermsTests extends Sentences {
         run("about(6) = -1", "quotientOf(0) = -1", "runScript(1, 500000) = -1", "write(again)", "errorPosition() = -1");
     }
 
+    @Sentence("Terms: It tells what the next prime would strike, how many strikes are needed, what is left.")
+    void itTellsWhatWouldBeStruckAndWhatIsLeft() {
+        run("wouldStrike(0) = 50", "strike() = 50", "left(0) = 50", "wouldStrike(0) = 17", "strike() = 17", "left(0) = 33",
+                "wouldStrike(0) = 7", "spare() = 5", "left(0) = 33", "wouldStrike(0) = 5", "strike() = 5", "left(0) = 28");
+        run("bound(30)", "strikeTo(99999) = 10", "about(4) = 1", "wouldStrike(0) = 0");
+        run("bound(30)", "strikeTo(6) = 3", "about(4) = 8", "strikeTo(28) = 6", "about(4) = 2", "strikeTo(99999) = 1",
+                "about(4) = 1");
+    }
+
+    @Sentence("Terms: Changes can be undone.")
+    void changesCanBeUndone() {
+        run("bound(30)", "strike()", "spare()", "bound(60)", "strikeTo(7)", "again()", "spare()", "strike() = 20",
+                "sumLeft(0) = 1200", "undo() = 7", "sumLeft(0) = 1830", "came(0) = -2", "came(1) = 0",
+                "undo() = 6", "about(3) = 0", "about(6) = NONE",
+                "undo() = 5", "about(2) = 4", "about(4) = 14", "came(3) = 7",
+                "undo() = 4", "about(0) = 60", "about(4) = 60", "quotient(1) = 30",
+                "undo() = 3", "about(0) = 30", "sumLeft(0) = 225", "came(0) = 2", "came(1) = -3", "wouldStrike(0) = 3",
+                "undo() = 2", "came(1) = 0", "wouldStrike(0) = 5",
+                "undo() = 1", "about(4) = 30", "wouldStrike(0) = 15", "undo() = 0", "about(0) = 100", "strike() = 50");
+    }
+
     // ---- STRIKING
 
     @Sentence("STRIKING: There is a bound n, 1 to 99999, at first 100.")
@@ -534,6 +555,16 @@ public final class TermsTests extends Sentences {
             }
         }
         run("came(-1) !argument", "came(min) !argument");
+    }
+
+    @Sentence("EXCEPTIONS: IllegalStateException means what the method says.")
+    void illegalStateMeansWhatTheMethodSays() {
+        run("60* append(97)", "append(97) !state", "clearText()", "append(97) = 1");
+        run("write(bound)", "load() !state", "append(57)", "load() = 0");
+        run("bound(2)", "spare()", "strike() !state", "spare() !state", "again()", "spare() = 2", "strike() !state");
+        run("bound(2)", "strike()", "spare() !state", "strike() !state", "undo()", "strike() = 1", "spare() !state");
+        run("undo() !state", "again()", "undo() = 0", "undo() !state");
+        run("restore(1) !state", "save(1)", "restore(1) = 100", "restore(0) !state");
     }
 
     @Sentence("EXCEPTIONS: If several exceptions apply to a call, the one that its description names first is thrown.")
